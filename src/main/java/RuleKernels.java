@@ -531,7 +531,7 @@ public final class RuleKernels {
                 long ownLeast = leastOf(factor, have[i]);
                 long ownMost = mostOf(factor, have[i]);
                 long highest = rule.right - (least - ownLeast);
-                long lowest = rule.kind == SUM ? rule.right - (most - ownMost) : Long.MIN_VALUE;
+                long lowest = rule.kind == SUM ? rule.right - (most - ownMost) : ownLeast;
                 if (ownLeast < lowest || ownMost > highest) {
                     keep[i] = within(have[i], factor, lowest, highest);
                 }
