@@ -174,7 +174,7 @@ public final class ModelTest {
             }
         }
 
-        /** These calls change nothing; so they are not counted among the 512. */
+        /** Beyond the 512 calls that the document promises: this class does not tire, and asking changes nothing. */
         void compareAll() {
             int told = model.woken();
             check("woken()", x.woken(), told);

@@ -60,9 +60,9 @@ public final class PromisesTest {
     }
 
     private static void keep(RuleKernels x, int place, int... symbols) {
-        long wanted = bits(symbols);
+        long unwanted = x.candidates(place) & ~bits(symbols);
         for (int symbol = 0; symbol < 60; symbol++) {
-            if ((wanted >>> symbol & 1) == 0) {
+            if ((unwanted >>> symbol & 1) != 0) {
                 x.take(place, symbol);
             }
         }
@@ -576,22 +576,31 @@ public final class PromisesTest {
             due("all went of place " + place, y.candidates(place), 0);
             due("with a reason", y.reason(place, 14, 0), 0);
         }
-        RuleKernels z = new RuleKernels(16, 60);
+        RuleKernels z = new RuleKernels(16, 16);
         z.rule(0, 0);
         intoAll(z, 0, new long[16]);
         for (int place = 0; place < 15; place++) {
-            keep(z, place, 59 - place, 58 - place);
+            keep(z, place, 15 - place, 14 - place);
         }
-        z.set(15, 44);
+        z.set(15, 0);
         due("a chain of moves", z.run(), 0);
         for (int place = 0; place < 15; place++) {
-            due("place " + place, z.candidates(place), bits(59 - place));
+            due("place " + place, z.candidates(place), bits(15 - place));
         }
         RuleKernels w = new RuleKernels(1, 3);
         w.rule(0, 0);
         w.into(0, 0, 0);
         w.run();
         due("one place", w.candidates(0), 7);
+        RuleKernels v = new RuleKernels(4, 5);
+        v.rule(0, 0);
+        intoAll(v, 0, 0, 0, 0, 0);
+        keep(v, 0, 0, 1);
+        keep(v, 1, 1, 2);
+        keep(v, 2, 2, 0);
+        due("three in a ring", v.run(), 0);
+        due("may turn either way", v.candidates(2), bits(0, 2));
+        due("the fourth keeps the others", v.candidates(3), bits(3, 4));
     }
 
     private static void equal() {
@@ -696,6 +705,12 @@ public final class PromisesTest {
         intoAll(w, 0, 0, 0, 0);
         due("three can, four should", w.run(), 1);
         due("all go", w.candidates(2), 0);
+        RuleKernels u = new RuleKernels(3, 5);
+        u.rule(4, 2);
+        intoAll(u, 0, 1, 1, 9);
+        u.set(0, 1);
+        due("one must, two can", u.run(), 0);
+        due("the other one has to", u.candidates(1), bits(1));
         RuleKernels v = new RuleKernels(2, 5);
         v.rule(4, 0);
         intoAll(v, 0, 2, 5);
