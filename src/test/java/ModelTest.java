@@ -6,17 +6,19 @@ import java.util.TreeSet;
 
 /** Random runs of calls, each answer held against a slow model that follows the document's words. */
 public final class ModelTest {
+    private static final int ASKED_AT_ONCE = 12;
+    private static final int ASKED_AT_LAST = 40;
     private static int wrong = 0;
 
     public static void main(String[] args) {
-        for (int seed = 0; seed < 4000 && wrong == 0; seed++) {
-            new Play(seed, 1 + seed % 7, 1 + seed % 6).play(400);
+        for (int seed = 0; seed < 20_000 && wrong == 0; seed++) {
+            new Play(seed, 1 + seed % 7, 1 + seed % 6).play();
         }
-        for (int seed = 4000; seed < 4300 && wrong == 0; seed++) {
-            new Play(seed, 20, 18).play(512);
+        for (int seed = 20_000; seed < 21_000 && wrong == 0; seed++) {
+            new Play(seed, 20, 18).play();
         }
-        for (int seed = 4300; seed < 4400 && wrong == 0; seed++) {
-            new Play(seed, 128, 60).play(512);
+        for (int seed = 21_000; seed < 21_300 && wrong == 0; seed++) {
+            new Play(seed, 128, 60).play();
         }
         int[] strides = {1, 7, 37, 53, 59, 113};
         for (int i = 0; i < strides.length && wrong == 0; i++) {
@@ -34,7 +36,7 @@ public final class ModelTest {
         final int seed;
         final int places;
         final int symbols;
-        final RuleKernels x;
+        final Counted x;
         final Model model;
         final List<String> calls = new ArrayList<>();
         final int shyness;
@@ -44,20 +46,22 @@ public final class ModelTest {
             this.places = places;
             this.symbols = symbols;
             random = new Random(seed);
-            x = new RuleKernels(places, symbols);
+            x = new Counted(places, symbols);
             model = new Model(places, symbols);
             shyness = 1 + random.nextInt(8);
         }
 
-        void play(int most) {
-            for (int i = 0; i < most && wrong == 0; i++) {
-                boolean early = i < most / 2 && model.marks.isEmpty();
+        void play() {
+            int most = x.callsLeft();
+            while (x.callsLeft() > ASKED_AT_LAST && wrong == 0) {
+                boolean early = x.callsLeft() > most / 2 && model.marks.isEmpty();
                 if (early && random.nextInt(10) < 8) {
                     build();
                 } else {
                     use();
                 }
             }
+            look(x.callsLeft());
         }
 
         /** All 120 rules, in a ring that can't rise all the way round: the longest runs there are. */
@@ -72,17 +76,15 @@ public final class ModelTest {
             }
             check("mark()", x.mark(), model.mark());
             check("run()", x.run(), model.run());
-            compareAll();
+            look(50);
             check("mark()", x.mark(), model.mark());
             check("run()", x.run(), model.run());
-            compareAll();
             check("back(1)", x.back(1) ? 1 : 0, model.back(1));
-            compareAll();
+            look(20);
             check("back(0)", x.back(0) ? 1 : 0, model.back(0));
-            compareAll();
             check("take(5, 0)", x.take(5, 0) ? 1 : 0, model.take(5, 0));
             check("run()", x.run(), model.run());
-            compareAll();
+            look(x.callsLeft());
         }
 
         int place() {
@@ -152,7 +154,7 @@ public final class ModelTest {
             int symbol = symbol();
             if (choice < 4) {
                 check("run()", x.run(), model.run());
-                compareAll();
+                look(ASKED_AT_ONCE);
             } else if (choice < 6) {
                 check("take(" + place + ", " + symbol + ")", x.take(place, symbol) ? 1 : 0, model.take(place, symbol));
             } else if (choice < 7) {
@@ -162,31 +164,35 @@ public final class ModelTest {
             } else if (choice < 12) {
                 int mark = random.nextInt(3) == 0 ? random.nextInt(23) - 1 : model.marks.size() - 1;
                 check("back(" + mark + ")", x.back(mark) ? 1 : 0, model.back(mark));
-                compareAll();
-            } else if (choice < 14) {
-                int k = random.nextInt(20) - 1;
-                check("reason(" + place + ", " + symbol + ", " + k + ")",
-                        x.reason(place, symbol, k), model.reason(place, symbol, k));
+                look(ASKED_AT_ONCE);
             } else if (choice < 16) {
-                check("candidates(" + place + ")", x.candidates(place), model.candidates(place));
+                ask();
             } else {
                 build();
             }
         }
 
-        /** Beyond the 512 calls that the document promises: this class does not tire, and asking changes nothing. */
-        void compareAll() {
-            int told = model.woken();
-            check("woken()", x.woken(), told);
-            for (int k = -1; k < Math.min(told, 1100) + 2; k++) {
-                check("order(" + k + ")", x.order(k), model.order(k));
+        void look(int questions) {
+            for (int i = 0; i < questions && x.callsLeft() > 0; i++) {
+                ask();
             }
-            for (int place = 0; place < places; place++) {
+        }
+
+        void ask() {
+            int choice = random.nextInt(10);
+            int place = place();
+            if (choice < 4) {
+                int k = random.nextInt(Math.min(model.woken(), 1100) + 3) - 1;
+                check("order(" + k + ")", x.order(k), model.order(k));
+            } else if (choice < 6) {
                 check("candidates(" + place + ")", x.candidates(place), model.candidates(place));
-                for (int symbol = 0; symbol < symbols; symbol++) {
-                    check("reason(" + place + ", " + symbol + ", 0)",
-                            x.reason(place, symbol, 0), model.reason(place, symbol, 0));
-                }
+            } else if (choice < 7) {
+                check("woken()", x.woken(), model.woken());
+            } else {
+                int symbol = symbol();
+                int k = random.nextInt(3) == 0 ? random.nextInt(20) - 1 : 0;
+                check("reason(" + place + ", " + symbol + ", " + k + ")",
+                        x.reason(place, symbol, k), model.reason(place, symbol, k));
             }
         }
 

@@ -1,74 +1,31 @@
 /** For each promise of the document: ordinary inputs, the edges that it names, and wrong inputs. */
-public final class PromisesTest {
-    private static int wrong = 0;
-    private static String part = "";
-
+public final class PromisesTest extends Sentences {
     public static void main(String[] args) {
-        newObject();
-        rule();
-        into();
-        table();
-        take();
-        set();
-        run();
-        candidates();
-        reason();
-        mark();
-        back();
-        woken();
-        order();
-        unlike();
-        equal();
-        sum();
-        atMost();
-        count();
-        rising();
-        apart();
-        tableRules();
-        System.out.println(wrong == 0 ? "all promises hold" : wrong + " answers are not as due");
-        if (wrong != 0) {
-            System.exit(1);
-        }
+        sentence("promise 1", PromisesTest::newObject);
+        sentence("promise 2", PromisesTest::rule);
+        sentence("promise 3", PromisesTest::into);
+        sentence("promise 4", PromisesTest::table);
+        sentence("promise 5", PromisesTest::take);
+        sentence("promise 6", PromisesTest::set);
+        sentence("promise 7", PromisesTest::run);
+        sentence("promise 8", PromisesTest::candidates);
+        sentence("promise 9", PromisesTest::reason);
+        sentence("promise 10", PromisesTest::mark);
+        sentence("promise 11", PromisesTest::back);
+        sentence("promise 12", PromisesTest::woken);
+        sentence("promise 13", PromisesTest::order);
+        sentence("kind 0", PromisesTest::unlike);
+        sentence("kind 1", PromisesTest::equal);
+        sentence("kind 2", PromisesTest::sum);
+        sentence("kind 3", PromisesTest::atMost);
+        sentence("kind 4", PromisesTest::count);
+        sentence("kind 5", PromisesTest::rising);
+        sentence("kind 6", PromisesTest::apart);
+        sentence("kind 7", PromisesTest::tableRules);
+        end();
     }
 
-    private static void due(String what, long got, long want) {
-        if (got != want) {
-            wrong++;
-            System.out.println(part + ": " + what + " answered " + got + ", due is " + want);
-        }
-    }
-
-    private static void due(String what, boolean got, boolean want) {
-        due(what, got ? 1L : 0L, want ? 1L : 0L);
-    }
-
-    private static long bits(int... symbols) {
-        long set = 0;
-        for (int symbol : symbols) {
-            set |= 1L << symbol;
-        }
-        return set;
-    }
-
-    /** The least set of bits that holds first .. last. */
-    private static long span(int first, int last) {
-        long set = 0;
-        for (int symbol = first; symbol <= last; symbol++) {
-            set |= 1L << symbol;
-        }
-        return set;
-    }
-
-    private static void keep(RuleKernels x, int place, int... symbols) {
-        long unwanted = x.candidates(place) & ~bits(symbols);
-        for (int symbol = 0; symbol < 60; symbol++) {
-            if ((unwanted >>> symbol & 1) != 0) {
-                x.take(place, symbol);
-            }
-        }
-    }
-
-    private static void intoAll(RuleKernels x, int rule, long... factors) {
+    private static void intoAll(Counted x, int rule, long... factors) {
         for (int place = 0; place < factors.length; place++) {
             due("into(" + rule + ", " + place + ", " + factors[place] + ")",
                     x.into(rule, place, factors[place]), true);
@@ -76,7 +33,6 @@ public final class PromisesTest {
     }
 
     private static void newObject() {
-        part = "promise 1";
         sizes(1, 1, 1, 1);
         sizes(128, 60, 128, 60);
         sizes(129, 61, 128, 60);
@@ -85,7 +41,7 @@ public final class PromisesTest {
         sizes(Integer.MAX_VALUE, Integer.MAX_VALUE, 128, 60);
         sizes(Integer.MIN_VALUE, Integer.MIN_VALUE, 1, 1);
         sizes(7, 5, 7, 5);
-        RuleKernels x = new RuleKernels(3, 3);
+        Counted x = new Counted(3, 3);
         due("no rules: into", x.into(0, 0, 0), false);
         due("no marks: back", x.back(0), false);
         due("woken()", x.woken(), 0);
@@ -96,7 +52,7 @@ public final class PromisesTest {
     }
 
     private static void sizes(int places, int symbols, int havePlaces, int haveSymbols) {
-        RuleKernels x = new RuleKernels(places, symbols);
+        Counted x = new Counted(places, symbols);
         String made = "(" + places + ", " + symbols + ") ";
         due(made + "first place", x.candidates(0), (1L << haveSymbols) - 1);
         due(made + "last place", x.candidates(havePlaces - 1), (1L << haveSymbols) - 1);
@@ -106,8 +62,7 @@ public final class PromisesTest {
     }
 
     private static void rule() {
-        part = "promise 2";
-        RuleKernels x = new RuleKernels(2, 2);
+        Counted x = new Counted(2, 2);
         due("kind -1", x.rule(-1, 0), -1);
         due("kind 8", x.rule(8, 0), -1);
         due("kind MIN", x.rule(Integer.MIN_VALUE, 0), -1);
@@ -138,8 +93,7 @@ public final class PromisesTest {
     }
 
     private static void into() {
-        part = "promise 3";
-        RuleKernels x = new RuleKernels(20, 3);
+        Counted x = new Counted(20, 3);
         due("no rule yet", x.into(0, 0, 0), false);
         x.rule(3, 1000);
         due("rule -1", x.into(-1, 0, 0), false);
@@ -181,8 +135,7 @@ public final class PromisesTest {
     }
 
     private static void table() {
-        part = "promise 4";
-        RuleKernels x = new RuleKernels(3, 60);
+        Counted x = new Counted(3, 60);
         x.rule(7, 0);
         x.rule(6, 0);
         due("no such rule", x.table(2, 0, 0), false);
@@ -212,7 +165,7 @@ public final class PromisesTest {
             due("pair " + pair, x.table(0, pair / 20, pair % 20), true);
         }
         due("pair 401", x.table(0, 30, 30), false);
-        RuleKernels y = new RuleKernels(3, 4);
+        Counted y = new Counted(3, 4);
         y.rule(7, 0);
         due("a 4 of 4", y.table(0, 4, 0), false);
         due("b 4 of 4", y.table(0, 0, 4), false);
@@ -220,8 +173,7 @@ public final class PromisesTest {
     }
 
     private static void take() {
-        part = "promise 5";
-        RuleKernels x = new RuleKernels(3, 4);
+        Counted x = new Counted(3, 4);
         due("place -1", x.take(-1, 0), false);
         due("place 3", x.take(3, 0), false);
         due("place MIN", x.take(Integer.MIN_VALUE, 0), false);
@@ -234,7 +186,7 @@ public final class PromisesTest {
         due("again", x.take(1, 2), false);
         due("one went", x.candidates(1), bits(0, 1, 3));
         due("of no other place", x.candidates(0), 15);
-        RuleKernels y = new RuleKernels(3, 4);
+        Counted y = new Counted(3, 4);
         y.rule(3, 1000);
         y.rule(3, 1000);
         y.rule(3, 1000);
@@ -257,8 +209,7 @@ public final class PromisesTest {
     }
 
     private static void set() {
-        part = "promise 6";
-        RuleKernels x = new RuleKernels(3, 60);
+        Counted x = new Counted(3, 60);
         x.rule(3, 1_000_000);
         x.into(0, 0, 1);
         x.run();
@@ -285,8 +236,7 @@ public final class PromisesTest {
     }
 
     private static void run() {
-        part = "promise 7";
-        RuleKernels x = new RuleKernels(5, 3);
+        Counted x = new Counted(5, 3);
         due("nothing to do", x.run(), 0);
         x.rule(1, 0);
         intoAll(x, 0, 0, 0, 0, 0, 0);
@@ -294,7 +244,7 @@ public final class PromisesTest {
         x.set(4, 2);
         due("all empty: the least place", x.run(), 1);
         due("empty", x.candidates(2), 0);
-        RuleKernels y = new RuleKernels(5, 3);
+        Counted y = new Counted(5, 3);
         y.rule(1, 0);
         y.into(0, 4, 0);
         y.into(0, 2, 0);
@@ -313,7 +263,7 @@ public final class PromisesTest {
     }
 
     private static void wakingOrder() {
-        RuleKernels x = new RuleKernels(4, 4);
+        Counted x = new Counted(4, 4);
         for (int number = 0; number < 6; number++) {
             x.rule(number == 3 ? 1 : 3, 1000);
         }
@@ -337,7 +287,7 @@ public final class PromisesTest {
     }
 
     private static void notItself() {
-        RuleKernels x = new RuleKernels(2, 10);
+        Counted x = new Counted(2, 10);
         x.rule(2, 9);
         x.into(0, 0, 2);
         x.into(0, 1, 3);
@@ -348,8 +298,7 @@ public final class PromisesTest {
     }
 
     private static void candidates() {
-        part = "promise 8";
-        RuleKernels x = new RuleKernels(128, 60);
+        Counted x = new Counted(128, 60);
         due("place 0", x.candidates(0), 1152921504606846975L);
         due("place 127", x.candidates(127), 1152921504606846975L);
         due("place 128", x.candidates(128), -1);
@@ -363,8 +312,7 @@ public final class PromisesTest {
     }
 
     private static void reason() {
-        part = "promise 9";
-        RuleKernels x = new RuleKernels(6, 6);
+        Counted x = new Counted(6, 6);
         x.rule(3, 1000);
         x.rule(1, 0);
         x.into(1, 5, 0);
@@ -406,8 +354,7 @@ public final class PromisesTest {
     }
 
     private static void mark() {
-        part = "promise 10";
-        RuleKernels x = new RuleKernels(2, 30);
+        Counted x = new Counted(2, 30);
         for (int number = 0; number < 20; number++) {
             due("mark", x.mark(), number);
             x.take(0, number);
@@ -424,8 +371,7 @@ public final class PromisesTest {
     }
 
     private static void back() {
-        part = "promise 11";
-        RuleKernels x = new RuleKernels(4, 4);
+        Counted x = new Counted(4, 4);
         due("none stands", x.back(0), false);
         x.rule(1, 0);
         x.rule(5, 0);
@@ -475,7 +421,7 @@ public final class PromisesTest {
     }
 
     private static void beforeAnyRun() {
-        RuleKernels x = new RuleKernels(2, 2);
+        Counted x = new Counted(2, 2);
         x.rule(3, 100);
         x.into(0, 0, 1);
         x.mark();
@@ -489,7 +435,7 @@ public final class PromisesTest {
     }
 
     private static void emptyBeforeMark() {
-        RuleKernels x = new RuleKernels(3, 2);
+        Counted x = new Counted(3, 2);
         x.take(1, 0);
         x.take(1, 1);
         x.mark();
@@ -501,8 +447,7 @@ public final class PromisesTest {
     }
 
     private static void woken() {
-        part = "promise 12";
-        RuleKernels x = new RuleKernels(3, 5);
+        Counted x = new Counted(3, 5);
         due("before", x.woken(), 0);
         x.rule(6, 1);
         x.into(0, 0, 0);
@@ -519,8 +464,7 @@ public final class PromisesTest {
 
     /** A ring can't rise all the way round; mixed numbers make the rules slow to find that out. */
     private static void order() {
-        part = "promise 13";
-        RuleKernels x = new RuleKernels(100, 60);
+        Counted x = new Counted(100, 60);
         for (int number = 0; number < 100; number++) {
             x.rule(5, 0);
             int place = number * 37 % 100;
@@ -549,8 +493,7 @@ public final class PromisesTest {
     }
 
     private static void unlike() {
-        part = "kind 0";
-        RuleKernels x = new RuleKernels(5, 6);
+        Counted x = new Counted(5, 6);
         x.rule(0, 0);
         intoAll(x, 0, 0, 0, 0, 0);
         keep(x, 0, 0, 1);
@@ -568,7 +511,7 @@ public final class PromisesTest {
         x.set(2, 3);
         x.run();
         due("one left", x.candidates(3), bits(2));
-        RuleKernels y = new RuleKernels(16, 15);
+        Counted y = new Counted(16, 15);
         y.rule(0, 0);
         intoAll(y, 0, new long[16]);
         due("16 places, 15 symbols", y.run(), 1);
@@ -576,7 +519,7 @@ public final class PromisesTest {
             due("all went of place " + place, y.candidates(place), 0);
             due("with a reason", y.reason(place, 14, 0), 0);
         }
-        RuleKernels z = new RuleKernels(16, 16);
+        Counted z = new Counted(16, 16);
         z.rule(0, 0);
         intoAll(z, 0, new long[16]);
         for (int place = 0; place < 15; place++) {
@@ -587,12 +530,12 @@ public final class PromisesTest {
         for (int place = 0; place < 15; place++) {
             due("place " + place, z.candidates(place), bits(15 - place));
         }
-        RuleKernels w = new RuleKernels(1, 3);
+        Counted w = new Counted(1, 3);
         w.rule(0, 0);
         w.into(0, 0, 0);
         w.run();
         due("one place", w.candidates(0), 7);
-        RuleKernels v = new RuleKernels(4, 5);
+        Counted v = new Counted(4, 5);
         v.rule(0, 0);
         intoAll(v, 0, 0, 0, 0, 0);
         keep(v, 0, 0, 1);
@@ -604,8 +547,7 @@ public final class PromisesTest {
     }
 
     private static void equal() {
-        part = "kind 1";
-        RuleKernels x = new RuleKernels(3, 6);
+        Counted x = new Counted(3, 6);
         x.rule(1, 0);
         intoAll(x, 0, 0, 0, 0);
         keep(x, 0, 0, 1, 2, 3);
@@ -622,27 +564,26 @@ public final class PromisesTest {
     }
 
     private static void sum() {
-        part = "kind 2";
-        RuleKernels x = new RuleKernels(3, 10);
+        Counted x = new Counted(3, 10);
         x.rule(2, 20);
         intoAll(x, 0, 1, 2, -1);
         due("run", x.run(), 0);
         due("v - 0 .. 9 + 0 .. 18 = 20: v of 2 ..", x.candidates(0), span(2, 9));
         due("2 v of 11 .. 29", x.candidates(1), span(6, 9));
         due("-v of -7 ..", x.candidates(2), span(0, 7));
-        RuleKernels y = new RuleKernels(2, 60);
+        Counted y = new Counted(2, 60);
         y.rule(2, -118_000);
         intoAll(y, 0, -1000, -1000);
         due("the least of all", y.run(), 0);
         due("59", y.candidates(0), bits(59));
         due("59", y.candidates(1), bits(59));
-        RuleKernels z = new RuleKernels(2, 4);
+        Counted z = new Counted(2, 4);
         z.rule(2, 3);
         intoAll(z, 0, 0, 2);
         due("2 v = 3", z.run(), 2);
         due("factor 0 keeps all", z.candidates(0), 15);
         due("2 v = 3 keeps none", z.candidates(1), 0);
-        RuleKernels w = new RuleKernels(2, 4);
+        Counted w = new Counted(2, 4);
         w.rule(2, 3);
         intoAll(w, 0, 2, 2);
         due("2 v + 2 w = 3: bounds alone", w.run(), 0);
@@ -650,8 +591,7 @@ public final class PromisesTest {
     }
 
     private static void atMost() {
-        part = "kind 3";
-        RuleKernels x = new RuleKernels(3, 10);
+        Counted x = new Counted(3, 10);
         x.rule(3, 7);
         intoAll(x, 0, 2, 3, -1);
         due("run", x.run(), 0);
@@ -663,7 +603,7 @@ public final class PromisesTest {
         due("run", x.run(), 0);
         due("2 v of at most 8", x.candidates(0), span(1, 4));
         due("3 v of at most 6", x.candidates(1), span(0, 2));
-        RuleKernels y = new RuleKernels(2, 3);
+        Counted y = new Counted(2, 3);
         y.rule(3, -1);
         intoAll(y, 0, 0, 0);
         due("0 is above -1", y.run(), 1);
@@ -671,8 +611,7 @@ public final class PromisesTest {
     }
 
     private static void count() {
-        part = "kind 4";
-        RuleKernels x = new RuleKernels(4, 5);
+        Counted x = new Counted(4, 5);
         x.rule(4, 2);
         intoAll(x, 0, 3, 3, 3, 4);
         due("run", x.run(), 0);
@@ -683,7 +622,7 @@ public final class PromisesTest {
         due("those that need not lose it", x.candidates(1), bits(0, 1, 2, 4));
         due("those that need not lose it", x.candidates(2), bits(0, 1, 2, 4));
         due("those that must keep it", x.candidates(3), bits(4));
-        RuleKernels y = new RuleKernels(4, 5);
+        Counted y = new Counted(4, 5);
         y.rule(4, 2);
         intoAll(y, 0, 3, 3, -1, 64);
         due("just two can: no symbol is none", y.run(), 0);
@@ -693,25 +632,25 @@ public final class PromisesTest {
         due("others keep all", y.candidates(3), 31);
         y.take(0, 3);
         due("empty", y.run(), 1);
-        RuleKernels z = new RuleKernels(3, 5);
+        Counted z = new Counted(3, 5);
         z.rule(4, 1);
         intoAll(z, 0, 0, 0, 0);
         z.set(0, 0);
         z.set(1, 0);
         due("two must, one may", z.run(), 1);
         due("all go", z.candidates(2), 0);
-        RuleKernels w = new RuleKernels(3, 5);
+        Counted w = new Counted(3, 5);
         w.rule(4, 4);
         intoAll(w, 0, 0, 0, 0);
         due("three can, four should", w.run(), 1);
         due("all go", w.candidates(2), 0);
-        RuleKernels u = new RuleKernels(3, 5);
+        Counted u = new Counted(3, 5);
         u.rule(4, 2);
         intoAll(u, 0, 1, 1, 9);
         u.set(0, 1);
         due("one must, two can", u.run(), 0);
         due("the other one has to", u.candidates(1), bits(1));
-        RuleKernels v = new RuleKernels(2, 5);
+        Counted v = new Counted(2, 5);
         v.rule(4, 0);
         intoAll(v, 0, 2, 5);
         due("none must, none may", v.run(), 0);
@@ -720,8 +659,7 @@ public final class PromisesTest {
     }
 
     private static void rising() {
-        part = "kind 5";
-        RuleKernels x = new RuleKernels(3, 8);
+        Counted x = new Counted(3, 8);
         x.rule(5, 0);
         intoAll(x, 0, 0, 0, 0);
         keep(x, 0, 2, 5, 7);
@@ -734,21 +672,21 @@ public final class PromisesTest {
         x.set(1, 4);
         x.take(2, 5);
         due("empty", x.run(), 3);
-        RuleKernels y = new RuleKernels(3, 2);
+        Counted y = new Counted(3, 2);
         y.rule(5, 0);
         intoAll(y, 0, 0, 0, 0);
         due("no way", y.run(), 1);
         due("all go, first", y.candidates(0), 0);
         due("all go, second", y.candidates(1), 0);
         due("all go, third", y.candidates(2), 0);
-        RuleKernels z = new RuleKernels(2, 4);
+        Counted z = new Counted(2, 4);
         z.rule(5, 0);
         z.into(0, 1, 0);
         z.into(0, 0, 0);
         z.run();
         due("in the order in which they came", z.candidates(0), bits(1, 2, 3));
         due("in the order in which they came", z.candidates(1), bits(0, 1, 2));
-        RuleKernels w = new RuleKernels(2, 60);
+        Counted w = new Counted(2, 60);
         w.rule(5, 0);
         w.into(0, 0, 0);
         w.run();
@@ -760,9 +698,8 @@ public final class PromisesTest {
     }
 
     private static void apart() {
-        part = "kind 6";
         for (int sign = -1; sign <= 1; sign += 2) {
-            RuleKernels x = new RuleKernels(3, 8);
+            Counted x = new Counted(3, 8);
             x.rule(6, 3 * sign);
             x.into(0, 0, 0);
             x.set(1, 4);
@@ -784,12 +721,12 @@ public final class PromisesTest {
         far(60, 60);
         far(60, 1_000_000);
         far(60, -1_000_000);
-        RuleKernels y = new RuleKernels(2, 60);
+        Counted y = new Counted(2, 60);
         y.rule(6, 59);
         intoAll(y, 0, 0, 0);
         due("59", y.run(), 0);
         due("both ends", y.candidates(0), bits(0, 59));
-        RuleKernels z = new RuleKernels(2, 4);
+        Counted z = new Counted(2, 4);
         z.rule(6, 0);
         intoAll(z, 0, 0, 0);
         z.take(0, 1);
@@ -798,7 +735,7 @@ public final class PromisesTest {
     }
 
     private static void far(int symbols, long right) {
-        RuleKernels x = new RuleKernels(2, symbols);
+        Counted x = new Counted(2, symbols);
         x.rule(6, right);
         intoAll(x, 0, 0, 0);
         due("too far: " + right, x.run(), 1);
@@ -806,8 +743,7 @@ public final class PromisesTest {
     }
 
     private static void tableRules() {
-        part = "kind 7";
-        RuleKernels x = new RuleKernels(3, 5);
+        Counted x = new Counted(3, 5);
         x.rule(7, 0);
         x.into(0, 1, 0);
         x.table(0, 0, 3);
@@ -828,7 +764,7 @@ public final class PromisesTest {
         x.set(0, 3);
         due("three places take nothing", x.run(), 0);
         due("three places take nothing", x.candidates(2), 31);
-        RuleKernels y = new RuleKernels(2, 5);
+        Counted y = new Counted(2, 5);
         y.rule(7, 0);
         intoAll(y, 0, 0, 0);
         due("no pairs", y.run(), 1);
