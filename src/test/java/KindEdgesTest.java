@@ -108,6 +108,43 @@ public final class KindEdgesTest extends Sentences {
                 has(x, place, bits(place, place + 1));
             }
         });
+        sentence("0: the last place has one candidate, for which all the others have to move on", () -> {
+            Counted x = new Counted(16, 16);
+            ruleOf(x, 0, 0, new long[16]);
+            for (int place = 0; place < 15; place++) {
+                keep(x, place, 15 - place, 14 - place);
+            }
+            x.set(15, 0);
+            runs(x, 0, 0);
+            for (int place = 0; place < 16; place++) {
+                has(x, place, bits(15 - place));
+            }
+        });
+        sentence("0: a ring of places that may all move on either way, and one outside it", () -> {
+            Counted x = new Counted(16, 16);
+            ruleOf(x, 0, 0, new long[16]);
+            for (int place = 0; place < 15; place++) {
+                keep(x, place, place, (place + 1) % 15);
+            }
+            runs(x, 0, 0);
+            for (int place = 0; place < 15; place++) {
+                has(x, place, bits(place, (place + 1) % 15));
+            }
+            has(x, 15, bits(15));
+        });
+        sentence("0: two rules, each with its own way", () -> {
+            Counted x = new Counted(4, 2);
+            ruleOf(x, 0, 0, 0, 0);
+            x.rule(0, 0);
+            x.into(1, 2, 0);
+            x.into(1, 3, 0);
+            runs(x, 0, 0, 1);
+            x.set(0, 0);
+            x.set(3, 0);
+            runs(x, 0, 0, 1);
+            has(x, 1, bits(1));
+            has(x, 2, bits(1));
+        });
         sentence("0: RIGHT and factors do not matter", () -> {
             Counted x = new Counted(2, 3);
             ruleOf(x, 0, -1_000_000, 1000, -1000);
@@ -539,6 +576,32 @@ public final class KindEdgesTest extends Sentences {
                 has(x, place, 0);
             }
             has(x, 5, span(0, 59));
+        });
+        sentence("5: no way because the last one is at the first symbol, or the first at the last", () -> {
+            Counted x = new Counted(3, 60);
+            ruleOf(x, 5, 0, 0, 0, 0);
+            x.mark();
+            x.set(2, 0);
+            due("run()", x.run(), 1);
+            has(x, 0, 0);
+            has(x, 1, 0);
+            has(x, 2, 0);
+            x.back(0);
+            x.set(0, 59);
+            due("run()", x.run(), 1);
+            has(x, 0, 0);
+            has(x, 1, 0);
+            has(x, 2, 0);
+        });
+        sentence("5: the first one is at the first symbol, the last at the last", () -> {
+            Counted x = new Counted(3, 60);
+            ruleOf(x, 5, 0, 0, 0, 0);
+            x.set(0, 0);
+            x.set(2, 59);
+            runs(x, 0, 0);
+            has(x, 0, bits(0));
+            has(x, 1, span(1, 58));
+            has(x, 2, bits(59));
         });
         sentence("5: no way because of the first and the last one", () -> {
             Counted x = new Counted(4, 10);

@@ -922,6 +922,7 @@ public final class PromiseEdgesTest extends Sentences {
         });
         sentence("10: What is now is kept: the row, and its order", PromiseEdgesTest::markRow);
         sentence("10: What is now is kept: the row, full", PromiseEdgesTest::markFullRow);
+        sentence("10: What is now is kept: the row, however many came and went since", PromiseEdgesTest::markRowAgain);
         sentence("10: What is now is kept: the order told", PromiseEdgesTest::markOrder);
         sentence("10: the mark's number, 0 for the first one that stands", () -> {
             Counted x = new Counted(2, 2);
@@ -996,6 +997,30 @@ public final class PromiseEdgesTest extends Sentences {
         for (int k = 0; k < 120; k++) {
             due("order(" + k + ")", x.order(k), 119 - k);
         }
+    }
+
+    /** 40 rules come at each take(): four times are more than the row has room for. */
+    private static void markRowAgain() {
+        Counted x = new Counted(4, 6);
+        for (int number = 0; number < 40; number++) {
+            watcher(x, 0);
+        }
+        watcher(x, 1);
+        watcher(x, 2);
+        watcher(x, 3);
+        x.run();
+        x.take(3, 0);
+        x.take(1, 0);
+        x.mark();
+        for (int symbol = 0; symbol < 4; symbol++) {
+            x.take(0, symbol);
+            due("run()", x.run(), 0);
+            due("woken()", x.woken(), symbol == 0 ? 42 : 40);
+            x.mark();
+        }
+        x.back(0);
+        x.take(2, 0);
+        runs(x, 0, 42, 40, 41);
     }
 
     private static void markOrder() {
