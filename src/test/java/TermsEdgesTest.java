@@ -235,6 +235,12 @@ public final class TermsEdgesTest extends Sentences {
             runs(x, 0, 1, 0);
         });
         sentence("in the order of their numbers, the rules of a place, all 120 of them", TermsEdgesTest::allRulesWake);
+        sentence("in the order of their numbers, all but the rule itself, all 119 of them", () -> {
+            int[] takers = {0, 1, 58, 59, 60, 61, 118, 119};
+            for (int taker : takers) {
+                allOthersWake(taker);
+            }
+        });
         sentence("of a place of which a candidate went, of no other place", () -> {
             Counted x = new Counted(128, 2);
             watcher(x, 0, 127);
@@ -280,6 +286,25 @@ public final class TermsEdgesTest extends Sentences {
         due("woken()", x.woken(), 120);
         for (int k = 0; k < 120; k++) {
             due("order(" + k + ")", x.order(k), k);
+        }
+    }
+
+    private static void allOthersWake(int taker) {
+        Counted x = new Counted(2, 3);
+        for (int number = 0; number < 120; number++) {
+            x.rule(number == taker ? 1 : 3, 1_000_000);
+        }
+        x.into(taker, 0, 0);
+        for (int number = 119; number >= 0; number--) {
+            x.into(number, 1, 0);
+        }
+        x.run();
+        x.take(0, 2);
+        x.run();
+        due("woken()", x.woken(), 120);
+        due("order(0)", x.order(0), taker);
+        for (int k = 1; k < 120; k++) {
+            due("order(" + k + ") after " + taker, x.order(k), k <= taker ? k - 1 : k);
         }
     }
 
